@@ -468,7 +468,7 @@ public final class ClauseMill {
     }
 
     private static int negative(int v) {
-        return 1 << NEGATIVE_SHIFT + v;
+        return 1 << (NEGATIVE_SHIFT + v);
     }
 
     private static int bothLiterals(int v) {
@@ -476,7 +476,7 @@ public final class ClauseMill {
     }
 
     private static int contrary(int literal) {
-        return literal << NEGATIVE_SHIFT | literal >>> NEGATIVE_SHIFT;
+        return (literal << NEGATIVE_SHIFT) | (literal >>> NEGATIVE_SHIFT);
     }
 
     private static boolean isSingle(int set) {
@@ -484,7 +484,7 @@ public final class ClauseMill {
     }
 
     private static boolean isTautology(int set) {
-        return (set & set >>> NEGATIVE_SHIFT) != 0;
+        return (set & (set >>> NEGATIVE_SHIFT)) != 0;
     }
 
     private static int resolvent(int c, int d, int without) {
@@ -492,6 +492,6 @@ public final class ClauseMill {
     }
 
     private static int trueLiterals(int trueVariables) {
-        return trueVariables | (ALL_VARIABLES & ~trueVariables) << NEGATIVE_SHIFT;
+        return trueVariables | ((ALL_VARIABLES & ~trueVariables) << NEGATIVE_SHIFT);
     }
 }

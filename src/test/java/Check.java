@@ -56,10 +56,6 @@ final class Check {
         return mill;
     }
 
-    static int[] row(int... numbers) {
-        return numbers;
-    }
-
     static int set(int... literals) {
         int bits = 0;
         for (int l : literals) {

@@ -334,6 +334,11 @@ public final class PromisesTest {
         check.dueThrow("5 one that stands nowhere", STATE, () -> mill.eliminate(9));
         check.dueThrow("5 no variable, the stack full", ARGUMENT, () -> mill.eliminate(11));
 
+        ClauseMill negative = Check.millOf(row(-1, 2), row(-1, 3), row(1, 4));
+        Check.pushTimes(negative, 10, 198);
+        check.due("5 clauses with -v are not pushed", negative.eliminate(1), 2);
+        check.due("5 clauses with -v are not pushed, entries", negative.entries(), 200);
+
         ClauseMill more = Check.millOf(row(1, 2), row(1, 3), row(1, 4), row(-1, 5), row(-1, 6));
         Check.pushTimes(more, 10, 200);
         check.due("5 what isn't done throws nothing", more.eliminate(1), -1);
@@ -365,6 +370,12 @@ public final class PromisesTest {
         check.due("6 no clause goes", all.clauses(), 10);
         Check.give(all, -1, -2, -3, -4, -5, -6, -7, -8, -9, -10);
         check.due("6 and not all", all.satisfiable(), false);
+
+        ClauseMill none = new ClauseMill();
+        for (int v = 1; v <= 10; v++) {
+            Check.give(none, -v);
+        }
+        check.due("6 all false alone", none.satisfiable(), true);
 
         ClauseMill two = Check.millOf(row(1, 2), row(1, -2), row(-1, 2));
         check.due("6 one assignment", two.satisfiable(), true);
