@@ -3,11 +3,29 @@ import java.util.Objects;
 /** What the tests share: comparing answers, giving clauses, writing sets of literals. */
 final class Check {
     private int wrong = 0;
+    private String sentence = "";
+
+    /** The document's sentence that the checks from here on are for; it is printed when one fails. */
+    void sentence(String where, String words) {
+        sentence = where + ", \"" + words + "\" ";
+    }
+
+    /** Runs tests one by one; one that ends in an exception is wrong, and the next ones run all the same. */
+    void all(Runnable... tests) {
+        for (Runnable test : tests) {
+            try {
+                test.run();
+            } catch (RuntimeException e) {
+                due("ended by an exception at " + e.getStackTrace()[0], e, null);
+            }
+        }
+        end();
+    }
 
     void due(String what, Object got, Object want) {
         if (!Objects.equals(got, want)) {
             wrong++;
-            System.out.println(what + ": got " + got + ", due is " + want);
+            System.out.println(sentence + what + ": got " + got + ", due is " + want);
         }
     }
 

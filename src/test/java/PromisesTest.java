@@ -8,30 +8,30 @@ public final class PromisesTest {
     private static final Check check = new Check();
 
     public static void main(String[] args) {
-        newObject();
-        literal();
-        close();
-        closeAtFortyClauses();
-        stepUnit();
-        stepSubsumption();
-        stepStrengthening();
-        stepBlocked();
-        stepWithFullStack();
-        stepWrong();
-        eliminate();
-        eliminateOnlyIfNotMore();
-        eliminateWithFullStack();
-        eliminateAtFortyClauses();
-        satisfiable();
-        clausesClauseNumber();
-        entriesEntry();
-        assign();
-        failing();
-        extend();
-        assignment();
-        unmet();
-        unmetOfFirstHundred();
-        check.end();
+        check.all(
+                PromisesTest::newObject,
+                PromisesTest::literal,
+                PromisesTest::close,
+                PromisesTest::closeAtFortyClauses,
+                PromisesTest::stepUnit,
+                PromisesTest::stepSubsumption,
+                PromisesTest::stepStrengthening,
+                PromisesTest::stepBlocked,
+                PromisesTest::stepWithFullStack,
+                PromisesTest::stepWrong,
+                PromisesTest::eliminate,
+                PromisesTest::eliminateOnlyIfNotMore,
+                PromisesTest::eliminateWithFullStack,
+                PromisesTest::eliminateAtFortyClauses,
+                PromisesTest::satisfiable,
+                PromisesTest::clausesClauseNumber,
+                PromisesTest::entriesEntry,
+                PromisesTest::assign,
+                PromisesTest::failing,
+                PromisesTest::extend,
+                PromisesTest::assignment,
+                PromisesTest::unmet,
+                PromisesTest::unmetOfFirstHundred);
     }
 
     private static int[] row(int... numbers) {
