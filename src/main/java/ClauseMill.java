@@ -64,10 +64,11 @@ public final class ClauseMill {
     public int close() throws IllegalStateException {
         int set = draft;
         boolean isMade = canBeMade(set);
+        // The draft is empty then in any case, so also where this throws; nothing else changes there.
+        draft = 0;
         if (isMade && count >= MOST_CLAUSES) {
             throw new IllegalStateException("40 clauses are there");
         }
-        draft = 0;
         remember(set);
         return isMade ? make(set) : NONE;
     }

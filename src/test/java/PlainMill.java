@@ -26,12 +26,12 @@ final class PlainMill {
     }
 
     int close() {
-        boolean made = !isTautology(draft) && !there.containsValue(draft);
+        Set<Integer> clause = draft;
+        draft = new TreeSet<>();
+        boolean made = !isTautology(clause) && !there.containsValue(clause);
         if (made && there.size() == 40) {
             throw new IllegalStateException();
         }
-        Set<Integer> clause = draft;
-        draft = new TreeSet<>();
         if (!isTautology(clause)) {
             given.add(clause);
         }

@@ -25,6 +25,8 @@ public final class PromiseEdgesTest {
                 PromiseEdgesTest::literalThatIsThere,
                 PromiseEdgesTest::literalThatIsNone,
                 PromiseEdgesTest::closeEmptiesTheDraft,
+                PromiseEdgesTest::closeThatThrowsEmptiesTheDraft,
+                PromiseEdgesTest::closeThatThrowsThenOfNoLiterals,
                 PromiseEdgesTest::closeAnswersTheNumber,
                 PromiseEdgesTest::closeThrowsAtForty,
                 PromiseEdgesTest::closeAtFortyNotMade,
@@ -155,6 +157,33 @@ public final class PromiseEdgesTest {
         check.due("literals", mill.clause(4), 0);
     }
 
+    private static void closeThatThrowsEmptiesTheDraft() {
+        check.sentence("Promise 3", "and is empty then, in any case");
+        ClauseMill mill = new ClauseMill();
+        Check.givePairs(mill, 1, 40);
+        for (int l : row(5, -6, 7)) {
+            mill.literal(l);
+        }
+        check.dueThrow("40 are there", STATE, mill::close);
+        check.due("none of the three stayed", mill.literal(8), 1);
+        check.dueThrow("40 are there still", STATE, mill::close);
+        check.due("nor did the one", mill.literal(-8), 1);
+        check.due("all with 10 go", mill.eliminate(10), 0);
+        check.due("no number was used", mill.close(), 40);
+        check.due("of that literal alone", mill.clause(mill.clauses() - 1), Check.set(-8));
+    }
+
+    private static void closeThatThrowsThenOfNoLiterals() {
+        check.sentence("Promise 3", "and is empty then, in any case");
+        ClauseMill mill = Check.millOf(row());
+        Check.givePairs(mill, 1, 39);
+        mill.literal(-1);
+        check.dueThrow("40 are there", STATE, mill::close);
+        check.due("not given", mill.unmet(), 40);
+        check.due("the clause of no literals is there", mill.close(), -1);
+        check.due("and was given again", mill.unmet(), 41);
+    }
+
     private static void closeAnswersTheNumber() {
         check.sentence("Promise 3", "its number; NONE when it isn't made.");
         ClauseMill mill = new ClauseMill();
@@ -175,11 +204,12 @@ public final class PromiseEdgesTest {
         mill.literal(-2);
         mill.literal(-3);
         check.dueThrow("40 are there", STATE, mill::close);
+        mill.literal(-2);
+        mill.literal(-3);
         check.dueThrow("and again", STATE, mill::close);
-        check.due("the draft stays", mill.literal(-2), 2);
         check.due("all with 10 go", mill.eliminate(10), 0);
-        check.due("fewer are there", mill.close(), 40);
-        check.due("the draft that stayed", mill.clause(mill.clauses() - 1), Check.set(-2, -3));
+        check.due("fewer are there", Check.give(mill, -2, -3), 40);
+        check.due("its literals", mill.clause(mill.clauses() - 1), Check.set(-2, -3));
         ClauseMill empty = new ClauseMill();
         Check.givePairs(empty, 1, 40);
         check.dueThrow("a clause of no literals at 40", STATE, empty::close);
@@ -207,7 +237,7 @@ public final class PromiseEdgesTest {
         check.due("it is none of them", mill.unmet(), 40);
         check.due("nor of those that are there", mill.failing(), 40);
         mill.eliminate(10);
-        check.due("later it gets the next number", mill.close(), 40);
+        check.due("later it gets the next number", Check.give(mill, 9), 40);
         check.due("and is one of them, once", mill.unmet(), 41);
     }
 
@@ -221,7 +251,7 @@ public final class PromiseEdgesTest {
         mill.literal(-10);
         check.dueThrow("behind 99", STATE, mill::close);
         mill.eliminate(9);
-        check.due("the hundredth", mill.close(), 40);
+        check.due("the hundredth", Check.give(mill, -10), 40);
         mill.assign(10, true);
         int with = mill.unmet();
         mill.assign(10, false);

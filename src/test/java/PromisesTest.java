@@ -101,15 +101,15 @@ public final class PromisesTest {
         mill.literal(9);
         mill.literal(10);
         check.dueThrow("3 at 40", STATE, mill::close);
-        check.dueThrow("3 at 40 once more", STATE, mill::close);
+        check.dueThrow("3 at 40 once more, of no literals", STATE, mill::close);
         check.due("3 it is not given", mill.unmet(), unmet);
         check.due("3 nothing came", mill.clauses(), 40);
-        check.due("3 the draft stays by a throw", mill.literal(10), 3);
+        check.due("3 the draft is empty behind a throw", mill.literal(10), 1);
         mill.eliminate(2);
         check.due("3 there is room again", mill.clauses() < 40, true);
         int last = mill.number(mill.clauses() - 1);
-        check.due("3 the draft that stayed", mill.close(), last + 1);
-        check.due("3 its literals", mill.clause(mill.clauses() - 1), Check.set(8, 9, 10));
+        check.due("3 the draft since the throw", mill.close(), last + 1);
+        check.due("3 its literals", mill.clause(mill.clauses() - 1), Check.set(10));
     }
 
     // Promise 4

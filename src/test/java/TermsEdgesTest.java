@@ -159,7 +159,7 @@ public final class TermsEdgesTest {
         check.due("forty are there still", mill.clauses(), 40);
         check.due("all with 10 go", mill.eliminate(10), 0);
         check.due("those left", mill.clauses(), 34);
-        check.due("it is made now", mill.close(), 40);
+        check.due("it is made now", Check.give(mill, -1), 40);
     }
 
     private static void noTwoTheSame() {

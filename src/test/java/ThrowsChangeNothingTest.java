@@ -5,7 +5,8 @@ import java.util.function.Supplier;
 
 /**
  * "What throws changes nothing, if nothing else is said.": of two objects with the same calls behind
- * them one gets calls that throw besides; all that can be seen of both is the same then.
+ * them one gets calls that throw besides; all that can be seen of both is the same then. Of close()
+ * something else is said: its draft is empty "in any case", and that alone changes.
  */
 public final class ThrowsChangeNothingTest {
     private static final Class<IllegalArgumentException> ARGUMENT = IllegalArgumentException.class;
@@ -20,7 +21,8 @@ public final class ThrowsChangeNothingTest {
         wrongArguments("some clauses", ThrowsChangeNothingTest::someClauses);
         wrongArguments("forty clauses", ThrowsChangeNothingTest::fortyClauses);
         wrongArguments("a full stack", ThrowsChangeNothingTest::fullStack);
-        changesNothing("close", ThrowsChangeNothingTest::fortyClauses, STATE, ClauseMill::close);
+        looksThen("close empties the draft alone", ThrowsChangeNothingTest::fortyClauses, STATE, ClauseMill::close,
+                ThrowsChangeNothingTest::fortyWithoutDraft);
         changesNothing("close of no literals", ThrowsChangeNothingTest::fortyWithoutDraft, STATE, ClauseMill::close);
         changesNothing("step 0, at once", ThrowsChangeNothingTest::fullStack, STATE, mill -> mill.step(0));
         changesNothing("step 3, at once", ThrowsChangeNothingTest::fullStack, STATE, mill -> mill.step(3));
@@ -51,9 +53,14 @@ public final class ThrowsChangeNothingTest {
 
     private static void changesNothing(String what, Supplier<ClauseMill> make,
             Class<? extends RuntimeException> want, Consumer<ClauseMill> call) {
+        looksThen(what, make, want, call, make);
+    }
+
+    private static void looksThen(String what, Supplier<ClauseMill> make,
+            Class<? extends RuntimeException> want, Consumer<ClauseMill> call, Supplier<ClauseMill> like) {
         ClauseMill one = make.get();
         check.dueThrow(what, want, () -> call.accept(one));
-        check.due(what, lookOf(one), lookOf(make.get()));
+        check.due(what, lookOf(one), lookOf(like.get()));
     }
 
     // ---- the objects, each with two literals in the draft if nothing else is said
@@ -73,7 +80,7 @@ public final class ThrowsChangeNothingTest {
         ClauseMill mill = new ClauseMill();
         Check.givePairs(mill, 1, 39);
         Check.give(mill, 1, 2, 3);
-        mill.assign(4, true);
+        mill.assign(3, true);
         return mill;
     }
 
